@@ -9,7 +9,9 @@ public final class ArrangeTest {
         greatestGainsFirst();
         searchFindsTheLeast();
         chainsByWeightsIntoThem();
+        noChainBehindItself();
         coldBlocks();
+        coldBlocksJoinNothing();
         coldLimits();
         withoutProfile();
         searchedBlocks();
@@ -88,6 +90,45 @@ public final class ArrangeTest {
         x.exchange(1, 4);
         CHECK.due("arrange(1, -1)", x.arrange(1, -1), 27);
         CHECK.due("the order by gains", Check.order(x, 5), "0 4 2 3 1");
+        x.invert(4);
+        x.arrange(0, -1);
+        CHECK.due("weights to second blocks count as well", Check.order(x, 5), "0 4 2 3 1");
+        x.clearProfile();
+        x.arrange(0, -1);
+        CHECK.due("nothing is left of an earlier profile", Check.order(x, 5), "0 1 2 3 4");
+    }
+
+    /** 1>2 5, 2>1 4, 0>1 1, 2>3 1: the second edge would close a ring. */
+    private static void noChainBehindItself() {
+        BlockLayout x = new BlockLayout();
+        x.clear(4);
+        x.setGo(0, 1);
+        x.setGo(1, 2);
+        x.setIf(2, 1, 3, 0b1111);
+        x.run(12);
+        for (int method = 0; method <= 2; method++) {
+            x.exchange(1, 3);
+            CHECK.due("arrange(" + method + ", -1)", x.arrange(method, -1), 3 * 4 + 1);
+            CHECK.due("the order", Check.order(x, 4), "0 1 2 3");
+        }
+    }
+
+    /** 0>2 3, 0>1 1, 2>4 2, 2>3 1, 4>0 2, 1>3 1, 3>0 1, 3>5 1; 1 and 5 are cold, and 1 goes to the hot 3. */
+    private static void coldBlocksJoinNothing() {
+        BlockLayout x = new BlockLayout();
+        x.clear(6);
+        x.setIf(0, 2, 1, 0b111);
+        x.setIf(2, 4, 3, 0b011);
+        x.setGo(4, 0);
+        x.setIf(3, 0, 5, 1);
+        x.setGo(1, 3);
+        CHECK.due("run(13)", x.run(13), 13);
+        for (int method = 0; method <= 1; method++) {
+            CHECK.due("arrange(" + method + ", 1)", x.arrange(method, 1), 6 + 5 + 4 + 6);
+            CHECK.due("the order", Check.order(x, 6), "0 2 4 3 1 5");
+            CHECK.due("hot blocks", x.layout(2), 4);
+            CHECK.due("the cost with the jump of 1", x.layout(5), 21 + 2);
+        }
     }
 
     private static void coldBlocks() {

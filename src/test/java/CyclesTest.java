@@ -25,6 +25,9 @@ public final class CyclesTest {
         x.run(4);
         x.setAlignment(16);
         CHECK.due("1 for the edge of 0, none for the taken branch", x.cycles(), 5);
+        x.setSize(0, 15);
+        CHECK.due("1 for a byte of padding", x.cycles(), 5);
+        CHECK.due("1 for it in runLayout", x.runLayout(4), 5);
         x.setSize(0, 16);
         CHECK.due("an aligned block without padding", x.cycles(), 4);
         x.setSize(0, 17);
@@ -96,6 +99,8 @@ public final class CyclesTest {
         CHECK.due("the alignment stays at 32", x.layout(7), 32);
         CHECK.due("undo() undoes the calls of setAlignment alone", x.undo(), 2);
         CHECK.due("the alignment before", x.layout(7), 16);
+        x.setSize(2, 15);
+        CHECK.due("a way back that only 32 makes short", x.bestAlignment(), 32);
     }
 
     private static void fewerCyclesLead() {

@@ -115,9 +115,11 @@ public final class ExecutionTest {
         x.runLayout(5);
         CHECK.due("the path of runLayout", Check.path(x), "0 1 0 1 2");
         x.setGo(0, 2);
-        CHECK.due("run(1)", Check.outcome(() -> x.run(1)), "ArithmeticException");
-        CHECK.due("runLayout(1)", Check.outcome(() -> x.runLayout(1)), "ArithmeticException");
+        x.setGo(2, 2);
+        CHECK.due("run(9)", Check.outcome(() -> x.run(9)), "ArithmeticException");
+        CHECK.due("runLayout(9)", Check.outcome(() -> x.runLayout(9)), "ArithmeticException");
         CHECK.due("the path after executions that failed", Check.path(x), "0 1 0 1 2");
+        x.setStop(2);
         x.run(2);
         CHECK.due("a shorter path", Check.path(x), "0 2");
         CHECK.fails(x, "pathBlock(2)", IndexOutOfBoundsException.class, () -> x.pathBlock(2));

@@ -7,6 +7,7 @@ public final class TextTest {
         texts();
         faults();
         faultsChangeNothing();
+        nothingIsLeftOfAnEarlierText();
         textsThatDoNotFit();
         readDoesWhatSettersDo();
         readOfNoBlock();
@@ -119,6 +120,14 @@ public final class TextTest {
         String before = Check.seen(x);
         CHECK.due("read(1)", x.read(1), -106);
         CHECK.due("the state after a fault", Check.seen(x), before);
+    }
+
+    private static void nothingIsLeftOfAnEarlierText() {
+        BlockLayout x = new BlockLayout();
+        CHECK.due("a text", read(x, 0, "55 stop"), 2);
+        CHECK.due("a number that ends too early", read(x, 0, "5"), -101);
+        CHECK.due("another text", read(x, 0, "5 stop"), 2);
+        CHECK.due("a word that ends too early", read(x, 0, "5 sto"), -105);
     }
 
     private static void misfit(String text) {
