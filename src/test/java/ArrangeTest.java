@@ -179,7 +179,7 @@ public final class ArrangeTest {
         x.setGo(0, 7);
         x.setGo(7, 3);
         x.run(3);
-        CHECK.fails(x, "arrange(2, -1) of 8", UnsupportedOperationException.class, () -> x.arrange(2, -1));
+        CHECK.fails("arrange(2, -1) of 8", UnsupportedOperationException.class, () -> x.arrange(2, -1));
         CHECK.due("arrange(0, -1) of 8", x.arrange(0, -1), 0);
         CHECK.due("arrange(2, 0)", x.arrange(2, 0), 0);
         CHECK.due("3 of 8 are hot", Check.order(x, 8), "0 7 3 1 2 4 5 6");
@@ -196,14 +196,14 @@ public final class ArrangeTest {
     private static void wrongInputs() {
         BlockLayout x = Programs.fiveBlocks();
         for (int method : new int[] {-1, 3, Integer.MIN_VALUE, Integer.MAX_VALUE}) {
-            CHECK.fails(x, "arrange(" + method + ", 0)", IllegalArgumentException.class, () -> x.arrange(method, 0));
+            CHECK.fails("arrange(" + method + ", 0)", IllegalArgumentException.class, () -> x.arrange(method, 0));
         }
         for (int limit : new int[] {-2, 10000, Integer.MIN_VALUE, Integer.MAX_VALUE}) {
-            CHECK.fails(x, "arrange(0, " + limit + ")", IllegalArgumentException.class, () -> x.arrange(0, limit));
+            CHECK.fails("arrange(0, " + limit + ")", IllegalArgumentException.class, () -> x.arrange(0, limit));
         }
         BlockLayout y = new BlockLayout();
         y.clear(9);
-        CHECK.fails(y, "arrange(2, -2) of 9", IllegalArgumentException.class, () -> y.arrange(2, -2));
-        CHECK.fails(y, "arrange(2, -1) of 9", UnsupportedOperationException.class, () -> y.arrange(2, -1));
+        CHECK.fails("arrange(2, -2) of 9", IllegalArgumentException.class, () -> y.arrange(2, -2));
+        CHECK.fails("arrange(2, -1) of 9", UnsupportedOperationException.class, () -> y.arrange(2, -1));
     }
 }

@@ -20,11 +20,9 @@ final class Check {
         }
     }
 
-    /** The call throws exactly this class, not one below it, and what can be seen of the object stays. */
-    void fails(BlockLayout x, String what, Class<?> exception, Call call) {
-        String before = seen(x);
+    /** The call throws exactly this class, not one below it; Edges looks at the state behind such calls. */
+    void fails(String what, Class<?> exception, Call call) {
         due(what, outcome(call), exception.getSimpleName());
-        due("the state after " + what, seen(x), before);
     }
 
     static Object outcome(Call call) {
@@ -45,19 +43,23 @@ final class Check {
             all.append("at ").append(x.order(b)).append('\n');
         }
         for (int what = 0; what <= 8; what++) all.append(x.layout(what)).append(' ');
-        all.append("path");
-        for (int i = 0; i < x.pathLength(); i++) all.append(' ').append(x.pathBlock(i));
-        all.append(" cycles ").append(x.cycles()).append(" best ").append(x.bestAlignment());
+        all.append(Edges.shortPath(x)).append(" cycles ").append(x.cycles()).append(" best ").append(x.bestAlignment());
         return all.toString();
     }
 
-    private static boolean hasBlock(BlockLayout x, int block) {
+    static boolean hasBlock(BlockLayout x, int block) {
         return outcome(() -> x.order(block)) instanceof Integer;
     }
 
     static String order(BlockLayout x, int blocks) {
         StringBuilder row = new StringBuilder();
         for (int i = 0; i < blocks; i++) row.append(i == 0 ? "" : " ").append(x.order(i));
+        return row.toString();
+    }
+
+    static String order(BlockLayout x) {
+        StringBuilder row = new StringBuilder();
+        for (int i = 0; i < 16 && hasBlock(x, i); i++) row.append(i == 0 ? "" : " ").append(x.order(i));
         return row.toString();
     }
 

@@ -57,7 +57,7 @@ public final class CyclesTest {
 
     private static void meanCycles() {
         BlockLayout x = Programs.selfLoop();
-        CHECK.fails(x, "meanCycles() without a profile", ArithmeticException.class, x::meanCycles);
+        CHECK.fails("meanCycles() without a profile", ArithmeticException.class, x::meanCycles);
         x.run(4);
         CHECK.due("meanCycles()", x.meanCycles(), 1.0);
         x.setAlignment(16);
@@ -65,7 +65,7 @@ public final class CyclesTest {
         BlockLayout y = Programs.fiveBlocks();
         CHECK.due("meanCycles() of another", y.meanCycles(), 41.0 / 17.0);
         y.clearProfile();
-        CHECK.fails(y, "meanCycles() after clearProfile", ArithmeticException.class, y::meanCycles);
+        CHECK.fails("meanCycles() after clearProfile", ArithmeticException.class, y::meanCycles);
         BlockLayout z = new BlockLayout();
         z.run(1);
         CHECK.due("meanCycles() of a return", z.meanCycles(), 0.0);

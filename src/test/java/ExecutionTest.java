@@ -34,14 +34,14 @@ public final class ExecutionTest {
     private static void runTooLong() {
         BlockLayout x = Programs.fiveBlocks();
         for (int limit : NO_LIMITS) {
-            CHECK.fails(x, "run(" + limit + ")", IllegalArgumentException.class, () -> x.run(limit));
+            CHECK.fails("run(" + limit + ")", IllegalArgumentException.class, () -> x.run(limit));
         }
-        CHECK.fails(x, "run(16)", ArithmeticException.class, () -> x.run(16));
-        CHECK.fails(x, "run(1)", ArithmeticException.class, () -> x.run(1));
+        CHECK.fails("run(16)", ArithmeticException.class, () -> x.run(16));
+        CHECK.fails("run(1)", ArithmeticException.class, () -> x.run(1));
         CHECK.due("run(17)", x.run(17), 17);
         x.setGo(1, 1);
-        CHECK.fails(x, "run(500) without end", ArithmeticException.class, () -> x.run(500));
-        CHECK.fails(x, "run(501) without end", IllegalArgumentException.class, () -> x.run(501));
+        CHECK.fails("run(500) without end", ArithmeticException.class, () -> x.run(500));
+        CHECK.fails("run(501) without end", IllegalArgumentException.class, () -> x.run(501));
     }
 
     /** Block 0 leaves its own loop at bit 31, and block 1 sends it there a second time: 32 1 32 1 1. */
@@ -69,12 +69,12 @@ public final class ExecutionTest {
         x.run(4);
         CHECK.due("1 more for the padding", x.runLayout(4), 5);
         for (int limit : NO_LIMITS) {
-            CHECK.fails(x, "runLayout(" + limit + ")", IllegalArgumentException.class, () -> x.runLayout(limit));
+            CHECK.fails("runLayout(" + limit + ")", IllegalArgumentException.class, () -> x.runLayout(limit));
         }
-        CHECK.fails(x, "runLayout(3)", ArithmeticException.class, () -> x.runLayout(3));
+        CHECK.fails("runLayout(3)", ArithmeticException.class, () -> x.runLayout(3));
         CHECK.due("runLayout(500)", x.runLayout(500), 5);
         x.setGo(2, 0);
-        CHECK.fails(x, "runLayout(500) without end", ArithmeticException.class, () -> x.runLayout(500));
+        CHECK.fails("runLayout(500) without end", ArithmeticException.class, () -> x.runLayout(500));
     }
 
     private static void cyclesOfForms() {
@@ -105,11 +105,11 @@ public final class ExecutionTest {
     private static void path() {
         BlockLayout x = Programs.selfLoop();
         CHECK.due("pathLength() before", x.pathLength(), 0);
-        CHECK.fails(x, "pathBlock(0) before", IndexOutOfBoundsException.class, () -> x.pathBlock(0));
+        CHECK.fails("pathBlock(0) before", IndexOutOfBoundsException.class, () -> x.pathBlock(0));
         x.run(4);
         CHECK.due("the path of run", Check.path(x), "0 1 1 2");
         for (int i : new int[] {-1, 4, 500, Integer.MIN_VALUE, Integer.MAX_VALUE}) {
-            CHECK.fails(x, "pathBlock(" + i + ")", IndexOutOfBoundsException.class, () -> x.pathBlock(i));
+            CHECK.fails("pathBlock(" + i + ")", IndexOutOfBoundsException.class, () -> x.pathBlock(i));
         }
         x.setIf(1, 0, 2, 1);
         x.runLayout(5);
@@ -122,7 +122,7 @@ public final class ExecutionTest {
         x.setStop(2);
         x.run(2);
         CHECK.due("a shorter path", Check.path(x), "0 2");
-        CHECK.fails(x, "pathBlock(2)", IndexOutOfBoundsException.class, () -> x.pathBlock(2));
+        CHECK.fails("pathBlock(2)", IndexOutOfBoundsException.class, () -> x.pathBlock(2));
     }
 
     private static void clearProfile() {

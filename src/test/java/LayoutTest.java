@@ -34,7 +34,7 @@ public final class LayoutTest {
             previous = alignment;
         }
         for (int alignment : new int[] {0, -1, -2, 3, 5, 6, 12, 24, 31, 33, 64, Integer.MIN_VALUE, Integer.MAX_VALUE}) {
-            CHECK.fails(x, "setAlignment(" + alignment + ")", ARGUMENT, () -> x.setAlignment(alignment));
+            CHECK.fails("setAlignment(" + alignment + ")", ARGUMENT, () -> x.setAlignment(alignment));
         }
     }
 
@@ -73,7 +73,7 @@ public final class LayoutTest {
         CHECK.due("setLoopLimit(9999)", x.setLoopLimit(9999), 3);
         CHECK.due("layout(8)", x.layout(8), 9999);
         for (int limit : new int[] {-1, 10000, Integer.MIN_VALUE, Integer.MAX_VALUE}) {
-            CHECK.fails(x, "setLoopLimit(" + limit + ")", ARGUMENT, () -> x.setLoopLimit(limit));
+            CHECK.fails("setLoopLimit(" + limit + ")", ARGUMENT, () -> x.setLoopLimit(limit));
         }
     }
 
@@ -86,14 +86,14 @@ public final class LayoutTest {
         CHECK.due("the order then", Check.order(x, 4), "0 2 3 1");
         CHECK.due("exchange(3, 3)", x.exchange(3, 3), 1);
         CHECK.due("the order still", Check.order(x, 4), "0 2 3 1");
-        CHECK.fails(x, "exchange(0, 1)", ARGUMENT, () -> x.exchange(0, 1));
-        CHECK.fails(x, "exchange(1, 0)", ARGUMENT, () -> x.exchange(1, 0));
-        CHECK.fails(x, "exchange(0, 0)", ARGUMENT, () -> x.exchange(0, 0));
+        CHECK.fails("exchange(0, 1)", ARGUMENT, () -> x.exchange(0, 1));
+        CHECK.fails("exchange(1, 0)", ARGUMENT, () -> x.exchange(1, 0));
+        CHECK.fails("exchange(0, 0)", ARGUMENT, () -> x.exchange(0, 0));
         for (int i : new int[] {-1, 4, 16, Integer.MIN_VALUE, Integer.MAX_VALUE}) {
-            CHECK.fails(x, "exchange(1, " + i + ")", INDEX, () -> x.exchange(1, i));
-            CHECK.fails(x, "exchange(" + i + ", 1)", INDEX, () -> x.exchange(i, 1));
-            CHECK.fails(x, "exchange(0, " + i + ")", INDEX, () -> x.exchange(0, i));
-            CHECK.fails(x, "exchange(" + i + ", 0)", INDEX, () -> x.exchange(i, 0));
+            CHECK.fails("exchange(1, " + i + ")", INDEX, () -> x.exchange(1, i));
+            CHECK.fails("exchange(" + i + ", 1)", INDEX, () -> x.exchange(i, 1));
+            CHECK.fails("exchange(0, " + i + ")", INDEX, () -> x.exchange(0, i));
+            CHECK.fails("exchange(" + i + ", 0)", INDEX, () -> x.exchange(i, 0));
         }
     }
 
@@ -105,7 +105,7 @@ public final class LayoutTest {
         CHECK.due("setHot(2)", x.setHot(2), 3);
         CHECK.due("layout(2)", x.layout(2), 2);
         for (int count : new int[] {0, -1, 4, 16, Integer.MIN_VALUE, Integer.MAX_VALUE}) {
-            CHECK.fails(x, "setHot(" + count + ")", ARGUMENT, () -> x.setHot(count));
+            CHECK.fails("setHot(" + count + ")", ARGUMENT, () -> x.setHot(count));
         }
     }
 
@@ -117,7 +117,7 @@ public final class LayoutTest {
         CHECK.due("order(1)", x.order(1), 2);
         CHECK.due("order(2)", x.order(2), 1);
         for (int i : new int[] {-1, 3, 16, Integer.MIN_VALUE, Integer.MAX_VALUE}) {
-            CHECK.fails(x, "order(" + i + ")", INDEX, () -> x.order(i));
+            CHECK.fails("order(" + i + ")", INDEX, () -> x.order(i));
         }
     }
 
@@ -138,13 +138,13 @@ public final class LayoutTest {
             }
         }
         for (int what : new int[] {-1, 4, Integer.MIN_VALUE, Integer.MAX_VALUE}) {
-            CHECK.fails(x, "place(0, " + what + ")", ARGUMENT, () -> x.place(0, what));
-            CHECK.fails(x, "place(3, " + what + ")", INDEX, () -> x.place(3, what));
+            CHECK.fails("place(0, " + what + ")", ARGUMENT, () -> x.place(0, what));
+            CHECK.fails("place(3, " + what + ")", INDEX, () -> x.place(3, what));
         }
         for (int b : FAR_OUT) {
-            CHECK.fails(x, "place(" + b + ", 0)", INDEX, () -> x.place(b, 0));
+            CHECK.fails("place(" + b + ", 0)", INDEX, () -> x.place(b, 0));
         }
-        CHECK.fails(x, "place(3, 0)", INDEX, () -> x.place(3, 0));
+        CHECK.fails("place(3, 0)", INDEX, () -> x.place(3, 0));
     }
 
     private static void coldSection() {
@@ -211,13 +211,13 @@ public final class LayoutTest {
     private static void endWrongInputs() {
         BlockLayout x = Programs.selfLoop();
         for (int what : new int[] {-1, 4, Integer.MIN_VALUE, Integer.MAX_VALUE}) {
-            CHECK.fails(x, "end(0, " + what + ")", ARGUMENT, () -> x.end(0, what));
-            CHECK.fails(x, "end(3, " + what + ")", INDEX, () -> x.end(3, what));
+            CHECK.fails("end(0, " + what + ")", ARGUMENT, () -> x.end(0, what));
+            CHECK.fails("end(3, " + what + ")", INDEX, () -> x.end(3, what));
         }
         for (int b : FAR_OUT) {
-            CHECK.fails(x, "end(" + b + ", 0)", INDEX, () -> x.end(b, 0));
+            CHECK.fails("end(" + b + ", 0)", INDEX, () -> x.end(b, 0));
         }
-        CHECK.fails(x, "end(3, 0)", INDEX, () -> x.end(3, 0));
+        CHECK.fails("end(3, 0)", INDEX, () -> x.end(3, 0));
     }
 
     /** Between block 0 and its target 4 lie 60, 60, the size of 3, and the byte of a return. */
@@ -355,7 +355,7 @@ public final class LayoutTest {
         x.setHot(5);
         CHECK.due("layout(0) without cold blocks", x.layout(0), x.layout(1));
         for (int what : new int[] {-1, 9, Integer.MIN_VALUE, Integer.MAX_VALUE}) {
-            CHECK.fails(x, "layout(" + what + ")", ARGUMENT, () -> x.layout(what));
+            CHECK.fails("layout(" + what + ")", ARGUMENT, () -> x.layout(what));
         }
     }
 }

@@ -25,7 +25,7 @@ public final class ProgramTest {
         for (int what = 0; what <= 7; what++) {
             CHECK.due("block(0, " + what + ") of a new object", x.block(0, what), due[what]);
         }
-        CHECK.fails(x, "block(1, 0) of a new object", INDEX, () -> x.block(1, 0));
+        CHECK.fails("block(1, 0) of a new object", INDEX, () -> x.block(1, 0));
         CHECK.due("order(0)", x.order(0), 0);
         CHECK.due("layout(1), a return alone", x.layout(1), 1);
         CHECK.due("layout(2)", x.layout(2), 1);
@@ -40,7 +40,7 @@ public final class ProgramTest {
         BlockLayout x = Programs.selfLoop();
         x.run(10);
         for (int blocks : new int[] {0, -1, 17, Integer.MIN_VALUE, Integer.MAX_VALUE}) {
-            CHECK.fails(x, "clear(" + blocks + ")", ARGUMENT, () -> x.clear(blocks));
+            CHECK.fails("clear(" + blocks + ")", ARGUMENT, () -> x.clear(blocks));
         }
         x.exchange(1, 2);
         x.setHot(2);
@@ -53,11 +53,11 @@ public final class ProgramTest {
         }
         CHECK.due("the order after clear", Check.order(x, 4), "0 1 2 3");
         CHECK.due("layout(2) after clear", x.layout(2), 4);
-        CHECK.fails(x, "undo() after clear", java.util.NoSuchElementException.class, x::undo);
+        CHECK.fails("undo() after clear", java.util.NoSuchElementException.class, x::undo);
         CHECK.due("clear(16)", x.clear(16), 4);
         CHECK.due("order(15)", x.order(15), 15);
         CHECK.due("clear(1)", x.clear(1), 16);
-        CHECK.fails(x, "order(1)", INDEX, () -> x.order(1));
+        CHECK.fails("order(1)", INDEX, () -> x.order(1));
     }
 
     private static void clearKeeps() {
@@ -84,11 +84,11 @@ public final class ProgramTest {
         CHECK.due("a weight stays", x.block(1, 5), 1);
         CHECK.due("a kind stays", x.block(1, 1), 1);
         for (int size : new int[] {-1, 61, Integer.MIN_VALUE, Integer.MAX_VALUE}) {
-            CHECK.fails(x, "setSize(0, " + size + ")", ARGUMENT, () -> x.setSize(0, size));
+            CHECK.fails("setSize(0, " + size + ")", ARGUMENT, () -> x.setSize(0, size));
         }
         for (int b : NO_BLOCK_OF_THREE) {
-            CHECK.fails(x, "setSize(" + b + ", 1)", INDEX, () -> x.setSize(b, 1));
-            CHECK.fails(x, "setSize(" + b + ", 61)", INDEX, () -> x.setSize(b, 61));
+            CHECK.fails("setSize(" + b + ", 1)", INDEX, () -> x.setSize(b, 1));
+            CHECK.fails("setSize(" + b + ", 61)", INDEX, () -> x.setSize(b, 61));
         }
     }
 
@@ -107,8 +107,8 @@ public final class ProgramTest {
         CHECK.due("its weight becomes 0", x.block(0, 5), 0);
         CHECK.due("setGo(2, 2)", x.setGo(2, 2), 2);
         for (int b : NO_BLOCK_OF_THREE) {
-            CHECK.fails(x, "setGo(" + b + ", 0)", INDEX, () -> x.setGo(b, 0));
-            CHECK.fails(x, "setGo(0, " + b + ")", INDEX, () -> x.setGo(0, b));
+            CHECK.fails("setGo(" + b + ", 0)", INDEX, () -> x.setGo(b, 0));
+            CHECK.fails("setGo(0, " + b + ")", INDEX, () -> x.setGo(0, b));
         }
     }
 
@@ -124,14 +124,14 @@ public final class ProgramTest {
         CHECK.due("weight of the second edge", x.block(1, 6), 0);
         CHECK.due("setIf(0, 1, 2, 5)", x.setIf(0, 1, 2, 5), 0);
         CHECK.due("setIf(2, 0, 2, 5)", x.setIf(2, 0, 2, 5), 2);
-        CHECK.fails(x, "setIf(0, 1, 1, 0)", ARGUMENT, () -> x.setIf(0, 1, 1, 0));
-        CHECK.fails(x, "setIf(0, 0, 0, 0)", ARGUMENT, () -> x.setIf(0, 0, 0, 0));
+        CHECK.fails("setIf(0, 1, 1, 0)", ARGUMENT, () -> x.setIf(0, 1, 1, 0));
+        CHECK.fails("setIf(0, 0, 0, 0)", ARGUMENT, () -> x.setIf(0, 0, 0, 0));
         for (int b : NO_BLOCK_OF_THREE) {
-            CHECK.fails(x, "setIf(" + b + ", 0, 1, 0)", INDEX, () -> x.setIf(b, 0, 1, 0));
-            CHECK.fails(x, "setIf(" + b + ", 1, 1, 0)", INDEX, () -> x.setIf(b, 1, 1, 0));
-            CHECK.fails(x, "setIf(0, " + b + ", 1, 0)", INDEX, () -> x.setIf(0, b, 1, 0));
-            CHECK.fails(x, "setIf(0, 1, " + b + ", 0)", INDEX, () -> x.setIf(0, 1, b, 0));
-            CHECK.fails(x, "setIf(0, " + b + ", " + b + ", 0)", INDEX, () -> x.setIf(0, b, b, 0));
+            CHECK.fails("setIf(" + b + ", 0, 1, 0)", INDEX, () -> x.setIf(b, 0, 1, 0));
+            CHECK.fails("setIf(" + b + ", 1, 1, 0)", INDEX, () -> x.setIf(b, 1, 1, 0));
+            CHECK.fails("setIf(0, " + b + ", 1, 0)", INDEX, () -> x.setIf(0, b, 1, 0));
+            CHECK.fails("setIf(0, 1, " + b + ", 0)", INDEX, () -> x.setIf(0, 1, b, 0));
+            CHECK.fails("setIf(0, " + b + ", " + b + ", 0)", INDEX, () -> x.setIf(0, b, b, 0));
         }
     }
 
@@ -148,7 +148,7 @@ public final class ProgramTest {
         CHECK.due("setStop(0)", x.setStop(0), 0);
         CHECK.due("setStop(0) once more", x.setStop(0), 2);
         for (int b : NO_BLOCK_OF_THREE) {
-            CHECK.fails(x, "setStop(" + b + ")", INDEX, () -> x.setStop(b));
+            CHECK.fails("setStop(" + b + ")", INDEX, () -> x.setStop(b));
         }
     }
 
@@ -166,10 +166,10 @@ public final class ProgramTest {
         CHECK.due("invert(4)", x.invert(4), 2);
         CHECK.due("run(17) with another block inverted", x.run(17), 17);
         CHECK.due("the path", Check.path(x), "0 4 3 0 4 3 0 4 2 0 4 2 0 4 2 0 1");
-        CHECK.fails(x, "invert(1) of a stop", UnsupportedOperationException.class, () -> x.invert(1));
-        CHECK.fails(x, "invert(2) of a go", UnsupportedOperationException.class, () -> x.invert(2));
+        CHECK.fails("invert(1) of a stop", UnsupportedOperationException.class, () -> x.invert(1));
+        CHECK.fails("invert(2) of a go", UnsupportedOperationException.class, () -> x.invert(2));
         for (int b : new int[] {-1, 5, 16, Integer.MIN_VALUE, Integer.MAX_VALUE}) {
-            CHECK.fails(x, "invert(" + b + ")", INDEX, () -> x.invert(b));
+            CHECK.fails("invert(" + b + ")", INDEX, () -> x.invert(b));
         }
         allBitsAreInverted();
     }
@@ -194,11 +194,11 @@ public final class ProgramTest {
             }
         }
         for (int what : new int[] {-1, 8, Integer.MIN_VALUE, Integer.MAX_VALUE}) {
-            CHECK.fails(x, "block(0, " + what + ")", ARGUMENT, () -> x.block(0, what));
-            CHECK.fails(x, "block(3, " + what + ")", INDEX, () -> x.block(3, what));
+            CHECK.fails("block(0, " + what + ")", ARGUMENT, () -> x.block(0, what));
+            CHECK.fails("block(3, " + what + ")", INDEX, () -> x.block(3, what));
         }
         for (int b : NO_BLOCK_OF_THREE) {
-            CHECK.fails(x, "block(" + b + ", 0)", INDEX, () -> x.block(b, 0));
+            CHECK.fails("block(" + b + ", 0)", INDEX, () -> x.block(b, 0));
         }
     }
 

@@ -19,8 +19,8 @@ public final class TextTest {
         for (int i = 1; i <= 60; i++) {
             CHECK.due("feed, the " + i + "th", x.feed((char) (i * 1000)), i);
         }
-        CHECK.fails(x, "feed, the 61st", IllegalStateException.class, () -> x.feed('1'));
-        CHECK.fails(x, "feed, once more", IllegalStateException.class, () -> x.feed((char) 0));
+        CHECK.fails("feed, the 61st", IllegalStateException.class, () -> x.feed('1'));
+        CHECK.fails("feed, once more", IllegalStateException.class, () -> x.feed((char) 0));
         CHECK.due("read(0)", x.read(0), -100);
         CHECK.due("feed after read", x.feed('1'), 1);
     }
@@ -134,7 +134,7 @@ public final class TextTest {
         BlockLayout x = Programs.selfLoop();
         x.run(4);
         Check.feed(x, text);
-        CHECK.fails(x, "read of '" + text + "'", IllegalArgumentException.class, () -> x.read(1));
+        CHECK.fails("read of '" + text + "'", IllegalArgumentException.class, () -> x.read(1));
         CHECK.due("the input after '" + text + "'", x.feed('1'), 1);
     }
 
@@ -164,19 +164,19 @@ public final class TextTest {
         CHECK.due("no loop head", x.block(1, 7), 0);
         CHECK.due("read(0)", read(x, 0, "4 go 1"), 0);
         CHECK.due("the weight becomes 0", x.block(0, 5), 0);
-        CHECK.fails(x, "undo(), for read is not undone", java.util.NoSuchElementException.class, x::undo);
+        CHECK.fails("undo(), for read is not undone", java.util.NoSuchElementException.class, x::undo);
     }
 
     private static void readOfNoBlock() {
         BlockLayout x = Programs.selfLoop();
         Check.feed(x, "9 stop");
         for (int b : new int[] {-1, 3, 16, Integer.MIN_VALUE, Integer.MAX_VALUE}) {
-            CHECK.fails(x, "read(" + b + ")", IndexOutOfBoundsException.class, () -> x.read(b));
+            CHECK.fails("read(" + b + ")", IndexOutOfBoundsException.class, () -> x.read(b));
         }
         CHECK.due("the input stays", x.read(2), 2);
         CHECK.due("and is read", x.block(2, 0), 9);
         Check.feed(x, "x");
-        CHECK.fails(x, "read(3) of a fault", IndexOutOfBoundsException.class, () -> x.read(3));
+        CHECK.fails("read(3) of a fault", IndexOutOfBoundsException.class, () -> x.read(3));
         CHECK.due("a fault stays", x.read(0), -100);
     }
 }

@@ -15,7 +15,7 @@ public final class UndoTest {
 
     private static void eachOfTheFour() {
         BlockLayout x = Programs.fiveBlocks();
-        CHECK.fails(x, "undo() of a new object", NoSuchElementException.class, x::undo);
+        CHECK.fails("undo() of a new object", NoSuchElementException.class, x::undo);
         x.setAlignment(8);
         x.exchange(1, 3);
         x.setHot(2);
@@ -32,7 +32,7 @@ public final class UndoTest {
         CHECK.due("the alignment stays", x.layout(7), 8);
         CHECK.due("undo() of setAlignment", x.undo(), 0);
         CHECK.due("the alignment before", x.layout(7), 1);
-        CHECK.fails(x, "undo() of nothing", NoSuchElementException.class, x::undo);
+        CHECK.fails("undo() of nothing", NoSuchElementException.class, x::undo);
     }
 
     private static void nothingElseIsUndone() {
@@ -66,7 +66,7 @@ public final class UndoTest {
             CHECK.due("undo()", x.undo(), left);
             CHECK.due("layout(2)", x.layout(2), left + 2);
         }
-        CHECK.fails(x, "undo(), the 11th", NoSuchElementException.class, x::undo);
+        CHECK.fails("undo(), the 11th", NoSuchElementException.class, x::undo);
         CHECK.due("layout(2) then", x.layout(2), 2);
     }
 
@@ -83,7 +83,7 @@ public final class UndoTest {
             CHECK.due("undo() again", x.undo(), 9 - i);
             CHECK.due("hot blocks again", x.layout(2), before[i]);
         }
-        CHECK.fails(x, "undo() of the 11th", NoSuchElementException.class, x::undo);
+        CHECK.fails("undo() of the 11th", NoSuchElementException.class, x::undo);
     }
 
     private static void clearForgets() {
@@ -94,7 +94,7 @@ public final class UndoTest {
         CHECK.due("clear(0)", Check.outcome(() -> x.clear(0)), "IllegalArgumentException");
         CHECK.due("undo() after a clear that failed", x.undo(), 1);
         x.clear(3);
-        CHECK.fails(x, "undo() after clear", NoSuchElementException.class, x::undo);
+        CHECK.fails("undo() after clear", NoSuchElementException.class, x::undo);
         CHECK.due("the alignment stays", x.layout(7), 4);
         x.setHot(2);
         CHECK.due("undo() of a call after clear", x.undo(), 0);
