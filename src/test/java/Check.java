@@ -51,12 +51,6 @@ final class Check {
         return outcome(() -> x.order(block)) instanceof Integer;
     }
 
-    static String order(BlockLayout x, int blocks) {
-        StringBuilder row = new StringBuilder();
-        for (int i = 0; i < blocks; i++) row.append(i == 0 ? "" : " ").append(x.order(i));
-        return row.toString();
-    }
-
     static String order(BlockLayout x) {
         StringBuilder row = new StringBuilder();
         for (int i = 0; i < 16 && hasBlock(x, i); i++) row.append(i == 0 ? "" : " ").append(x.order(i));

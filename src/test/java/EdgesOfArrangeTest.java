@@ -138,7 +138,21 @@ public final class EdgesOfArrangeTest {
             arranged("one whose weight became 0", x, method, -1, "0 2 1 3");
             x.setGo(0, 2);
             arranged("both of whose weights became 0", x, method, -1, "0 1 2 3");
+            arranged("two edges with a weight of 1", twoLightEdges(), method, -1, "0 2 4 3 1");
         }
+    }
+
+    /** 2>4 and 3>1, each followed once; 0 goes nowhere any more. */
+    private static BlockLayout twoLightEdges() {
+        BlockLayout x = Programs.ofBlocks(5);
+        x.setGo(2, 4);
+        x.setGo(3, 1);
+        x.setGo(0, 2);
+        x.run(3);
+        x.setGo(0, 3);
+        x.run(3);
+        x.setStop(0);
+        return x;
     }
 
     /** 1 and 2 both go to 3, so many times each; 3 goes to 4 once. */
@@ -287,6 +301,11 @@ public final class EdgesOfArrangeTest {
             arranged("3 to 1 4, and 2 and 2 to 2 3", threeChains(3), method, -1, "0 5 6 2 3 1 4");
             arranged("4 to 1 4, as many as to 2 3", threeChains(4), method, -1, "0 5 6 1 4 2 3");
             arranged("5 to 1 4", threeChains(5), method, -1, "0 5 6 1 4 2 3");
+            BlockLayout x = threeChains(3);
+            for (int b : new int[] {0, 5, 6}) x.invert(b);
+            arranged("light edges that lead to first blocks", x, method, -1, "0 5 6 2 3 1 4");
+            x.clearProfile();
+            arranged("nothing of what led there before", x, method, -1, "0 1 2 3 4 5 6");
         }
     }
 
@@ -359,6 +378,17 @@ public final class EdgesOfArrangeTest {
             EDGES.answers(Programs::fiveBlocks, "all hot by " + by, x -> x.arrange(by, 0), 27);
             EDGES.answers(Programs::fiveBlocks, "3 cold, whose jumps cost 4, by " + by, x -> x.arrange(by, 2), 23);
             EDGES.answers(Programs::fiveBlocks, "0 hot alone by " + by, x -> x.arrange(by, 6), 18);
+        }
+        for (int method = 0; method <= 2; method++) {
+            BlockLayout x = Programs.ofBlocks(4);
+            x.setGo(0, 1);
+            x.setGo(1, 3);
+            x.run(3);
+            x.setGo(0, 3);
+            x.run(2);
+            // Counts 2 1 0 2: 1, whose jump costs 2, is the first cold block.
+            EDGES.due("the jump of the first cold block is not in it", x.arrange(method, 1), 0);
+            EDGES.due("but in that of all blocks", x.layout(5), 2);
         }
         EDGES.answers(Programs::misleading, "by 0", x -> x.arrange(0, -1), 50);
         EDGES.answers(Programs::misleading, "by 1", x -> x.arrange(1, -1), 50);

@@ -52,7 +52,8 @@ public final class EdgesOfExceptionsTest {
 
     private static BlockLayout endless() {
         BlockLayout x = Programs.busy();
-        x.setGo(1, 0);
+        x.setGo(0, 2);
+        x.setGo(2, 3);
         return x;
     }
 

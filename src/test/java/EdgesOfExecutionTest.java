@@ -89,10 +89,11 @@ public final class EdgesOfExecutionTest {
         }
     }
 
+    /** The program goes other ways than the path of the latest execution, and never stops. */
     private static BlockLayout endless() {
         BlockLayout x = Programs.busy();
-        x.run(17);
-        x.setIf(1, 0, 4, 0);
+        x.setGo(0, 2);
+        x.setGo(2, 3);
         return x;
     }
 
@@ -197,9 +198,12 @@ public final class EdgesOfExecutionTest {
         for (int[] pair : due) EDGES.due("pathBlock(" + pair[0] + ")", x.pathBlock(pair[0]), pair[1]);
         EDGES.due("run(499)", Check.outcome(() -> x.run(499)), "ArithmeticException");
         EDGES.due("the last one after a run that threw", x.pathBlock(499), 15);
-        x.setGo(0, 15);
-        EDGES.due("runLayout(1)", Check.outcome(() -> x.runLayout(1)), "ArithmeticException");
+        x.setGo(0, 14);
+        EDGES.due("run(3)", Check.outcome(() -> x.run(3)), "ArithmeticException");
+        EDGES.due("the second one after a run another way that threw", x.pathBlock(1), 0);
+        EDGES.due("runLayout(3)", Check.outcome(() -> x.runLayout(3)), "ArithmeticException");
         EDGES.due("the second one after a runLayout that threw", x.pathBlock(1), 0);
+        x.setGo(0, 15);
         x.runLayout(2);
         EDGES.due("the second one after another way", x.pathBlock(1), 15);
         EDGES.due("nothing behind a shorter way", Check.outcome(() -> x.pathBlock(2)), "IndexOutOfBoundsException");

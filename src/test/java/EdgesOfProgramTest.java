@@ -175,6 +175,10 @@ public final class EdgesOfProgramTest {
         EDGES.due("the second block of an end counts as its first one does", heads(x, 4), "1");
         x.invert(2);
         EDGES.due("the first block of an end", heads(x, 4), "1");
+        x.setIf(2, 3, 0, 0);
+        EDGES.due("block 0 as a second block", heads(x, 4), "0");
+        x.invert(2);
+        EDGES.due("block 0 as a first block", heads(x, 4), "0");
         x.setGo(2, 3);
         EDGES.due("nothing goes back", heads(x, 4), "");
         // 3 goes to 1 from behind it; 0 goes to 1 from before it.

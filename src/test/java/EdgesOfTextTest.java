@@ -106,6 +106,12 @@ public final class EdgesOfTextTest {
             + "block does not change.");
         int[] kinds = {2, 2, 0, 0, 1, 1, 1, 1};
         for (int i = 0; i < TEXTS.length; i++) EDGES.due("read of '" + TEXTS[i] + "'", read(TEXTS[i]), kinds[i]);
+        BlockLayout x = Programs.ofBlocks(5);
+        for (int i : new int[] {0, 2, 4, 2, 0, 4, 0, 0, 2, 2, 4, 4}) {
+            Check.feed(x, TEXTS[i]);
+            EDGES.due("read of '" + TEXTS[i] + "' behind another", x.read(1), kinds[i]);
+            EDGES.due("the kind", x.block(1, 1), kinds[i]);
+        }
     }
 
     private static void emptyAfterwards() {

@@ -81,11 +81,11 @@ public final class LayoutTest {
         BlockLayout x = new BlockLayout();
         x.clear(4);
         CHECK.due("exchange(1, 3)", x.exchange(1, 3), 3);
-        CHECK.due("the order", Check.order(x, 4), "0 3 2 1");
+        CHECK.due("the order", Check.order(x), "0 3 2 1");
         CHECK.due("exchange(2, 1)", x.exchange(2, 1), 3);
-        CHECK.due("the order then", Check.order(x, 4), "0 2 3 1");
+        CHECK.due("the order then", Check.order(x), "0 2 3 1");
         CHECK.due("exchange(3, 3)", x.exchange(3, 3), 1);
-        CHECK.due("the order still", Check.order(x, 4), "0 2 3 1");
+        CHECK.due("the order still", Check.order(x), "0 2 3 1");
         CHECK.fails("exchange(0, 1)", ARGUMENT, () -> x.exchange(0, 1));
         CHECK.fails("exchange(1, 0)", ARGUMENT, () -> x.exchange(1, 0));
         CHECK.fails("exchange(0, 0)", ARGUMENT, () -> x.exchange(0, 0));
@@ -317,7 +317,7 @@ public final class LayoutTest {
         y.setIf(3, 4, 1, 0);
         y.exchange(4, 3);
         y.setGo(2, 4);
-        CHECK.due("an order in which 3 is the last", Check.order(y, 5), "0 1 2 4 3");
+        CHECK.due("an order in which 3 is the last", Check.order(y), "0 1 2 4 3");
         y.setIf(3, 4, 1, 0);
         CHECK.due("a short branch", y.end(3, 2), 0);
         CHECK.due("a jump by -127", y.end(3, 3), 0);

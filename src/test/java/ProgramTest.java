@@ -51,7 +51,7 @@ public final class ProgramTest {
                 CHECK.due("block(" + b + ", " + what + ") after clear", x.block(b, what), due[what]);
             }
         }
-        CHECK.due("the order after clear", Check.order(x, 4), "0 1 2 3");
+        CHECK.due("the order after clear", Check.order(x), "0 1 2 3");
         CHECK.due("layout(2) after clear", x.layout(2), 4);
         CHECK.fails("undo() after clear", java.util.NoSuchElementException.class, x::undo);
         CHECK.due("clear(16)", x.clear(16), 4);

@@ -20,15 +20,15 @@ public final class UndoTest {
         x.exchange(1, 3);
         x.setHot(2);
         x.arrange(0, 2);
-        CHECK.due("the order by arrange", Check.order(x, 5), "0 4 2 1 3");
+        CHECK.due("the order by arrange", Check.order(x), "0 4 2 1 3");
         CHECK.due("undo() of arrange", x.undo(), 3);
-        CHECK.due("the order before", Check.order(x, 5), "0 3 2 1 4");
+        CHECK.due("the order before", Check.order(x), "0 3 2 1 4");
         CHECK.due("the hot blocks before", x.layout(2), 2);
         CHECK.due("undo() of setHot", x.undo(), 2);
         CHECK.due("all hot", x.layout(2), 5);
-        CHECK.due("the order stays", Check.order(x, 5), "0 3 2 1 4");
+        CHECK.due("the order stays", Check.order(x), "0 3 2 1 4");
         CHECK.due("undo() of exchange", x.undo(), 1);
-        CHECK.due("the order ascends", Check.order(x, 5), "0 1 2 3 4");
+        CHECK.due("the order ascends", Check.order(x), "0 1 2 3 4");
         CHECK.due("the alignment stays", x.layout(7), 8);
         CHECK.due("undo() of setAlignment", x.undo(), 0);
         CHECK.due("the alignment before", x.layout(7), 1);
@@ -47,7 +47,7 @@ public final class UndoTest {
         CHECK.due("exchange(0, 1)", Check.outcome(() -> x.exchange(0, 1)), "IllegalArgumentException");
         CHECK.due("arrange(3, 0)", Check.outcome(() -> x.arrange(3, 0)), "IllegalArgumentException");
         CHECK.due("undo() of exchange alone", x.undo(), 0);
-        CHECK.due("the order", Check.order(x, 3), "0 1 2");
+        CHECK.due("the order", Check.order(x), "0 1 2");
         CHECK.due("the loop limit stays", x.layout(8), 9);
         CHECK.due("the size stays", x.block(0, 0), 1);
         CHECK.due("the end stays inverted", x.block(1, 2), 2);
