@@ -40,6 +40,7 @@ final class Edges {
     private final Check check;
     private final String document;
     private String sentence = "";
+    private int checksOfSentence = 1;
 
     Edges(String test) {
         check = new Check(test);
@@ -59,23 +60,30 @@ final class Edges {
         return text.replace("`", "").replaceAll("\\s+", " ");
     }
 
-    /** The part of the document for a promise, or the description. */
+    /** The part of the document for a promise, or, as the description, all that stands before the promises. */
     static String section(String document, int promise) {
-        String title = promise == DESCRIPTION ? "## Description" : "## Promise " + promise + ":";
-        int from = document.indexOf(title);
-        int to = from < 0 ? -1 : document.indexOf(" ## ", from);
+        int from = promise == DESCRIPTION ? 0 : document.indexOf("## Promise " + promise + ":");
+        int to = from < 0 ? -1 : document.indexOf(promise == DESCRIPTION ? " ## Promise 1:" : " ## ", from);
         return from < 0 ? "" : document.substring(from, to < 0 ? document.length() : to);
     }
 
     /** The sentence that the checks behind this call hold. */
     void holds(int promise, String words) {
+        checkedAtAll();
         sentence = words;
+        checksOfSentence = 0;
         if (!document.isEmpty()) {
             check.due("promise " + promise + " has '" + words + "'", section(document, promise).contains(words), true);
         }
     }
 
+    /** A sentence that is told, but behind which nothing is checked, is not held. */
+    private void checkedAtAll() {
+        if (checksOfSentence == 0) check.due("checks of '" + sentence + "'", 0, "at least one");
+    }
+
     void due(String what, Object got, Object want) {
+        checksOfSentence++;
         check.due("'" + sentence + "': " + what, got, want);
     }
 
@@ -125,6 +133,7 @@ final class Edges {
     }
 
     void finish() {
+        checkedAtAll();
         check.finish();
     }
 

@@ -295,15 +295,23 @@ public final class EdgesOfArrangeTest {
         return x;
     }
 
+    /** The same, with first and second blocks exchanged in the chain of 0. */
+    private static BlockLayout lightFirst(int to1) {
+        BlockLayout x = threeChains(to1);
+        for (int b : new int[] {0, 5, 6}) x.invert(b);
+        return x;
+    }
+
     private static void greatestSumOfWeights() {
         EDGES.holds(0, PLACED);
         for (int method = 0; method <= 1; method++) {
             arranged("3 to 1 4, and 2 and 2 to 2 3", threeChains(3), method, -1, "0 5 6 2 3 1 4");
             arranged("4 to 1 4, as many as to 2 3", threeChains(4), method, -1, "0 5 6 1 4 2 3");
             arranged("5 to 1 4", threeChains(5), method, -1, "0 5 6 1 4 2 3");
-            BlockLayout x = threeChains(3);
-            for (int b : new int[] {0, 5, 6}) x.invert(b);
-            arranged("light edges that lead to first blocks", x, method, -1, "0 5 6 2 3 1 4");
+            BlockLayout x = lightFirst(3);
+            arranged("light edges that lead to first blocks, 3 to 1 4", x, method, -1, "0 5 6 2 3 1 4");
+            arranged("light edges that lead to first blocks, 4 to 1 4", lightFirst(4), method, -1, "0 5 6 1 4 2 3");
+            arranged("light edges that lead to first blocks, 5 to 1 4", lightFirst(5), method, -1, "0 5 6 1 4 2 3");
             x.clearProfile();
             arranged("nothing of what led there before", x, method, -1, "0 1 2 3 4 5 6");
         }

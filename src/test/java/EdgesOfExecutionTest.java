@@ -243,7 +243,7 @@ public final class EdgesOfExecutionTest {
         EDGES.due("of a block", y.clearProfile(), 1);
     }
 
-    /** As many executions as an object has calls: the last of them is the 512th call. */
+    /** Nearly as many executions as an object has calls; LifeTest goes on to the 512th. */
     private static void manyCalls() {
         EDGES.holds(9, "Executes the program and adds to the profile.");
         BlockLayout x = Programs.lasting(500);

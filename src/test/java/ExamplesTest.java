@@ -1,12 +1,74 @@
-/** The three examples of the document's description. */
+import java.io.IOException;
+import java.lang.reflect.Method;
+import java.nio.file.Files;
+import java.nio.file.Path;
+import java.util.regex.Matcher;
+import java.util.regex.Pattern;
+
+/**
+ * The three examples of the document's description, as they were written down here and as the document has them;
+ * and the example of README.md.
+ */
 public final class ExamplesTest {
     private static final Check CHECK = new Check("ExamplesTest");
+    private static final Pattern CALL = Pattern.compile("(\\w+)\\(([-\\d, ]*)\\) = (-?\\d+)");
+    private static final Pattern README_CALL = Pattern.compile("x\\.(\\w+)\\(([-\\d, ]*)\\); +// (-?\\d+):");
 
-    public static void main(String[] args) {
+    public static void main(String[] args) throws IOException {
         hotEdge();
         placesBehindAnAlignment();
         invertedBranch();
+        asTheDocumentHasThem();
+        exampleOfReadme();
         CHECK.finish();
+    }
+
+    /** Each example begins with clear, on a new object. */
+    private static void asTheDocumentHasThem() {
+        String description = Edges.section(Edges.documentText(), Edges.DESCRIPTION);
+        Matcher call = CALL.matcher(description.substring(description.indexOf("Examples, each")));
+        BlockLayout x = new BlockLayout();
+        int examples = 0;
+        int calls = 0;
+        while (call.find()) {
+            if (call.group(1).equals("clear")) {
+                x = new BlockLayout();
+                examples++;
+            }
+            calls++;
+            CHECK.due(call.group(), answer(x, call.group(1), call.group(2)), Integer.valueOf(call.group(3)));
+        }
+        CHECK.due("examples of the document", examples, 3);
+        CHECK.due("their calls", calls, 24);
+    }
+
+    /** The lines of README.md tell what each call answers. */
+    private static void exampleOfReadme() throws IOException {
+        String[] lines = Files.readString(Path.of("README.md")).split("\n");
+        BlockLayout x = new BlockLayout();
+        int calls = 0;
+        for (String line : lines) {
+            if (!line.startsWith("x.")) continue;
+            Matcher call = README_CALL.matcher(line);
+            CHECK.due("README.md tells an answer: " + line, call.lookingAt(), true);
+            calls++;
+            CHECK.due("README.md: " + line, answer(x, call.group(1), call.group(2)), Integer.valueOf(call.group(3)));
+        }
+        CHECK.due("README.md has an example", calls > 9, true);
+    }
+
+    private static Object answer(BlockLayout x, String name, String numbers) {
+        String[] texts = numbers.isEmpty() ? new String[0] : numbers.split(", ");
+        Object[] arguments = new Object[texts.length];
+        for (int i = 0; i < texts.length; i++) arguments[i] = Integer.valueOf(texts[i]);
+        try {
+            for (Method method : BlockLayout.class.getMethods()) {
+                if (method.getName().equals(name)) return method.invoke(x, arguments);
+            }
+        } catch (ReflectiveOperationException e) {
+            return e.toString();
+        }
+        return "no such method";
     }
 
     private static void hotEdge() {

@@ -1,14 +1,18 @@
 import java.io.IOException;
+import java.io.InputStream;
 import java.lang.reflect.Constructor;
 import java.lang.reflect.Executable;
 import java.lang.reflect.Field;
 import java.lang.reflect.Method;
 import java.lang.reflect.Modifier;
+import java.nio.charset.StandardCharsets;
 import java.nio.file.Files;
 import java.nio.file.Path;
 import java.util.List;
 import java.util.Set;
 import java.util.TreeSet;
+import java.util.regex.Matcher;
+import java.util.regex.Pattern;
 
 /** The public face of the document, and those rules of LANGUAGE.md that can be seen from outside. */
 public final class FaceTest {
@@ -21,9 +25,12 @@ public final class FaceTest {
 
     public static void main(String[] args) throws IOException {
         face();
+        asTheDocumentHasIt();
         nothingElse();
         names();
         source();
+        shortMethods();
+        library();
         CHECK.finish();
     }
 
@@ -44,6 +51,24 @@ public final class FaceTest {
         }
         CHECK.due("the methods", got, due);
         CHECK.due("the class", BlockLayout.class.getModifiers(), Modifier.PUBLIC | Modifier.FINAL);
+    }
+
+    /** Each line of the document's face stands in the source, with the names of its parameters, and no other. */
+    private static void asTheDocumentHasIt() throws IOException {
+        String document = Files.readString(Path.of("../shared/DOC.md"));
+        int from = document.indexOf("```java");
+        String[] lines = document.substring(from, document.indexOf("```", from + 7)).split("\n");
+        Set<String> due = new TreeSet<>();
+        for (String line : lines) {
+            String words = line.trim();
+            if (words.startsWith("public ")) due.add(words.replace(";", " {"));
+        }
+        Set<String> got = new TreeSet<>();
+        String source = Files.readString(SOURCE).replaceAll("\\s+", " ");
+        Matcher line = Pattern.compile("public [^{]*\\{").matcher(source);
+        while (line.find()) got.add(line.group());
+        CHECK.due("the lines of the face", got, due);
+        CHECK.due("their number: the class, its constructor and 27 methods", got.size(), 29);
     }
 
     private static String told(Method method) {
@@ -112,6 +137,34 @@ public final class FaceTest {
                 CHECK.due("no " + word + " in " + line, line.contains(word), false);
             }
             CHECK.due("plain signs in " + line, line.chars().allMatch(c -> c >= 32 && c < 127), true);
+        }
+    }
+
+    /** What begins at an indent of one or two steps, classes apart, ends within sixty lines. */
+    private static void shortMethods() throws IOException {
+        List<String> lines = Files.readAllLines(SOURCE);
+        for (int i = 0; i < lines.size(); i++) {
+            String indent = lines.get(i).replaceAll("\\S.*", "");
+            boolean member = indent.length() == 4 || indent.length() == 8;
+            if (!member || !lines.get(i).endsWith("{") || lines.get(i).contains(" class ")) continue;
+            int end = i;
+            while (end < lines.size() && !lines.get(end).equals(indent + "}")) end++;
+            CHECK.due("at most sixty lines: " + lines.get(i), end - i <= 60, true);
+        }
+    }
+
+    /** The compiled classes name nothing of the library but what LANGUAGE.md lists. */
+    private static void library() throws IOException {
+        Set<String> listed = Set.of("Object", "String", "Math", "IllegalStateException", "IllegalArgumentException",
+            "IndexOutOfBoundsException", "ArithmeticException", "UnsupportedOperationException", "NoSuchElementException");
+        for (Class<?> type : allClasses()) {
+            try (InputStream in = type.getResourceAsStream(type.getName() + ".class")) {
+                String bytes = new String(in.readAllBytes(), StandardCharsets.ISO_8859_1);
+                Matcher named = Pattern.compile("javax?/[\\w/$]*?(\\w+)(?![\\w/$])").matcher(bytes);
+                while (named.find()) {
+                    CHECK.due(named.group() + " is listed", listed.contains(named.group(1)), true);
+                }
+            }
         }
     }
 }

@@ -9,27 +9,21 @@ import java.util.TreeSet;
 import java.util.regex.Matcher;
 import java.util.regex.Pattern;
 
-/** Every sentence of the description and of the promises that names a boundary is held by a test of the Edges. */
+/** Every sentence of the document that asks for something is held by a test that uses Edges. */
 public final class SentencesTest {
     private static final Check CHECK = new Check("SentencesTest");
     private static final String TEXT = "\"((?:[^\"\\\\]|\\\\.)*)\"";
     private static final Pattern NAMED = Pattern.compile("String (\\w+) = " + TEXT + ";");
     private static final Pattern HOLDS = Pattern.compile("holds\\((\\d+), (?:" + TEXT + "|(\\w+))\\)");
 
-    /** What names no boundary: titles of the description, and what the ordinary tests hold. */
-    private static final Set<String> WITHOUT_BOUNDARY = Set.of(
+    /** What is no sentence about the class, but says what follows in the document, or sums it up. */
+    private static final Set<String> TITLES = Set.of(
         "Program.", "Profile.", "Loop heads.", "Layout.", "Ends in the layout.", "Addresses.", "Cycles.", "Arranging.",
         "Exceptions.", "Examples, each with a new object: calls and their results.",
         "The constructor and the methods follow, a promise each: the signature, then what it does.",
-        "Sets the size of a block.", "Lets a block go to one block.", "Lets a block go to one of two blocks.",
-        "Lets a block stop.", "Returns a property of a block.", "Returns the property.", "Returns the block.",
-        "Sets the alignment.", "Sets the loop limit.", "Makes a layout by arranging.", "Exchanges two blocks in the order.",
-        "Sets the number of hot blocks.", "Returns where a block stands.", "Returns the number.",
-        "Returns what the end of a block needs.", "Returns a number about the layout.", "Returns the number of cycles.",
-        "Returns the quotient.", "Returns the alignment.", "block: the block", "blocks: the number of blocks",
-        "size: the size", "to: the block to which it goes", "first: the first block", "second: the second block",
-        "pattern: the pattern", "alignment: the alignment", "limit: the loop limit", "coldLimit: the cold limit",
-        "j: a position", "count: the number of hot blocks", "character: the character");
+        "A planner of the order in which the blocks of a program stand in memory: weights of edges from executions, chains "
+            + "that are joined by weights or by gains, cold blocks in a section of their own, inverted branches, short and "
+            + "long jumps, alignment of loop heads, and a machine that executes the layout.");
 
     public static void main(String[] args) throws IOException {
         Set<String> held = held();
@@ -38,7 +32,7 @@ public final class SentencesTest {
             Matcher promise = Pattern.compile("Promise (\\d+):").matcher(part);
             if (promise.lookingAt()) {
                 look(part, promise.group(1), held);
-            } else if (part.startsWith("Description")) {
+            } else if (part.startsWith("Description") || part.startsWith("What it is")) {
                 look(part, String.valueOf(Edges.DESCRIPTION), held);
             }
         }
@@ -48,7 +42,7 @@ public final class SentencesTest {
     /** The promises and sentences that tests give to holds, be it as a text or by the name of one. */
     private static Set<String> held() throws IOException {
         Set<String> held = new TreeSet<>();
-        try (DirectoryStream<Path> files = Files.newDirectoryStream(Path.of("src/test/java"), "EdgesOf*.java")) {
+        try (DirectoryStream<Path> files = Files.newDirectoryStream(Path.of("src/test/java"), "*Test.java")) {
             for (Path file : files) {
                 String joined = Files.readString(file).replaceAll("\"\\s*\\+\\s*\"", "");
                 Map<String, String> texts = new HashMap<>();
@@ -68,7 +62,7 @@ public final class SentencesTest {
         for (String paragraph : part.substring(part.indexOf('\n')).split("\\n\\s*\\n|\\n- ")) {
             for (String sentence : Edges.plain(paragraph).trim().split("(?<=\\.) (?=[A-Z])")) {
                 String words = sentence.replaceFirst("^- ", "");
-                if (namesABoundary(words)) {
+                if (asksForSomething(words)) {
                     String told = promise + ": " + words;
                     CHECK.due("a test holds '" + told + "'", held.contains(told), true);
                 }
@@ -76,10 +70,11 @@ public final class SentencesTest {
         }
     }
 
-    private static boolean namesABoundary(String words) {
-        boolean title = words.isEmpty() || words.startsWith("----");
+    /** Signatures are held by FaceTest, and examples by ExamplesTest; both read the document themselves. */
+    private static boolean asksForSomething(String words) {
+        boolean title = words.isEmpty() || words.startsWith("----") || TITLES.contains(words);
         boolean signature = words.matches("(int|double) \\w+\\(.*\\).*") || words.equals("BlockLayout()");
         boolean example = words.matches(".*: clear\\(\\d\\) = 1;.*");
-        return !title && !signature && !example && !WITHOUT_BOUNDARY.contains(words);
+        return !title && !signature && !example;
     }
 }
